@@ -241,16 +241,18 @@ public final class ConfinementAnalyzer {
 
     public int smallestRepair() {
         refreshAnalysis();
-        int sets = 1 << state.referenceCount;
-        for (int size = 0; size <= state.referenceCount; size++) {
-            for (int removed = 0; removed < sets; removed++) {
-                if (Integer.bitCount(removed) == size && isRepair(removed)) {
+        int all = (1 << state.referenceCount) - 1;
+        int needed = findNeeded(all);
+        for (int size = 0; size < state.referenceCount; size++) {
+            for (int removed = 0; removed < all; removed++) {
+                boolean fits = Integer.bitCount(removed) == size && (removed & needed) == needed;
+                if (fits && isRepair(removed)) {
                     return removed;
                 }
             }
         }
-        // Not reached: without initial references nothing is held.
-        return sets - 1;
+        // Without initial references nothing is held, so that all of them are a repair.
+        return all;
     }
 
     // ---- runs
@@ -348,6 +350,20 @@ public final class ConfinementAnalyzer {
         coarse.start(state, 0);
         coarse.close(roles, true);
         analysed = true;
+    }
+
+    /**
+     * The references that violate a requirement even alone: more references never yield less, so
+     * that every repair has them, and smallestRepair() need not try the many sets that lack one.
+     */
+    private int findNeeded(int all) {
+        int needed = 0;
+        for (int i = 0; i < state.referenceCount; i++) {
+            if (!isRepair(all & ~bit(i))) {
+                needed |= bit(i);
+            }
+        }
+        return needed;
     }
 
     private boolean isRepair(int removed) {
@@ -587,8 +603,10 @@ public final class ConfinementAnalyzer {
         private static final int NUMBER = 2;
         private static final int SEMICOLON = 3;
         private static final int STRAY = 4;
-        private static final int HOLD = 4;
         private static final int MAX_NUMBERS = 3;
+
+        /** The other statements bear the number of the kind that they declare. */
+        private static final int HOLD = 4;
 
         final int[] characters = new int[MAX_TEXT];
         int length = 0;

@@ -501,7 +501,10 @@ public final class OracleTest {
             int groups = 1 + dice.nextInt(6);
             int brands = 1 + dice.nextInt(4);
             for (int o = 0; o < objects; o++) {
-                int kind = o == 0 ? 0 : dice.nextInt(6);
+                int kind = agents.isEmpty() ? dice.nextInt(4) * dice.nextInt(2) : dice.nextInt(6);
+                if (kind == 3 && o == 0) {
+                    kind = 4;
+                }
                 int group = dice.nextInt(groups);
                 int brand = dice.nextInt(brands);
                 if (kind == 3) {
@@ -519,7 +522,7 @@ public final class OracleTest {
                 text.append(dice.nextInt(8) == 0 ? "  " : " ").append(group).append(";");
             }
             Set<Ref> seen = new HashSet<>();
-            for (int i = dice.nextInt(11); i > 0; i--) {
+            for (int i = dice.nextInt(11); i > 0 && !holders.isEmpty(); i--) {
                 Ref r = new Ref(holders.get(dice.nextInt(holders.size())), dice.nextInt(objects));
                 if (seen.add(r) || dice.nextInt(30) == 0) {
                     text.append("hold").append(r.holder).append(" ").append(r.object).append(";");
@@ -530,7 +533,7 @@ public final class OracleTest {
 
         /** Spoils a text in one place, so that the error position is asked. */
         private String spoil(String text) {
-            String signs = "agentboxkeyfactoryhold0123456789 ;;  \t-A";
+            String signs = "agentboxkeyfactoryhold0123456789 ;;  \t-Az`{/:";
             StringBuilder spoilt = new StringBuilder(text);
             int at = dice.nextInt(text.length());
             String sign = signs.substring(dice.nextInt(signs.length())).substring(0, 1);
@@ -545,7 +548,7 @@ public final class OracleTest {
 
         private void loadSomething() {
             String text = randomSystem();
-            if (dice.nextInt(4) == 0) {
+            for (int spoils = dice.nextInt(4) == 0 ? 1 + dice.nextInt(2) : 0; spoils > 0 && !text.isEmpty(); spoils--) {
                 text = spoil(text);
             }
             for (int i = 0; i < text.length(); i++) {

@@ -126,6 +126,15 @@ public final class PromisesTest {
         due("4: brand 4 of a key", loaded("key4 0;"), -13);
         due("4: a box in itself", loaded("box0 0 0;"), -15);
         due("4: group of a box", loaded("key0 0;box0 0 6;"), -24);
+        due("4: group of a key", loaded("key0 6;"), -15);
+        due("4: group of a factory", loaded("agent0 0;factory0 6;"), -28);
+        due("4: z is a letter", loaded("agentz0 0;"), -10);
+        due("4: the sign behind z is none", loaded("agent{0 0;"), -15);
+        due("4: the sign before a is none", loaded("agent`0 0;"), -15);
+        due("4: the sign behind 9 is no digit", loaded("agent9:0;"), -16);
+        due("4: the sign before 0 is no digit", loaded("agent9/0;"), -16);
+        due("4: a word of the same length", loaded("hola0 0;"), -10);
+        due("4: a word with another first letter", loaded("bgent0 0;"), -10);
         due("4: product is no agent", loaded("key0 0;factory0 0;"), -24);
         due("4: product is not there", loaded("factory0 0;"), -17);
         due("4: holder is a key", loaded("key0 0;hold0 0;"), -21);
@@ -390,7 +399,12 @@ public final class PromisesTest {
         due("19: another group of objects", c.coarselyMayHold(0, 5), 0);
         due("19: agent 5 holds the factory", c.addReference(5, 2), 2);
         due("19: and so its group", c.coarselyMayHold(5, 3), 1);
-        // Agent 6 is made by factory 2, which holds what its group holds.
+        // Key 0 is of the group of the holder, and gets nothing all the same.
+        ConfinementAnalyzer e = system("key0 0;agent0 0;key1 0;key1 1;hold1 2;");
+        due("19: the first key holds nothing", e.coarselyMayHold(0, 2), 0);
+        due("19: the holder gets the first key", e.coarselyMayHold(1, 0), 1);
+        due("19: and not the key of another group", e.coarselyMayHold(1, 3), 0);
+        // Agent 1 is made by factory 2, which holds what its group holds.
         ConfinementAnalyzer d = system("agent0 0;agent0 3;factory1 0;key0 1;agent2 2;hold0 3;hold4 2;");
         due("19: rule 5 behind rule 6", d.coarselyMayHold(1, 3), 1);
         due("13: but not without", d.mayHold(1, 3), 0);
@@ -442,6 +456,20 @@ public final class PromisesTest {
         d.forbid(1, 2);
         d.forbid(1, 3);
         due("23: one instead of two", d.smallestRepair(), 0b100);
+        // A box and its key: the one that comes first goes; a key of another brand matters nothing.
+        ConfinementAnalyzer f = system("agent2 0;agent0 0;key1 0;key0 0;box0 1 0;hold0 2;hold0 3;hold0 4;");
+        f.forbid(0, 1);
+        due("23: the key of the box", f.smallestRepair(), 0b10);
+        // A factory: its holder, or what it holds.
+        ConfinementAnalyzer g = system("agent2 0;agent0 0;key0 0;factory1 0;hold3 2;hold0 3;");
+        g.forbid(1, 2);
+        due("23: what the factory holds", g.smallestRepair(), 0b1);
+        g.forbid(0, 1);
+        due("23: the factory", g.smallestRepair(), 0b10);
+        // An answering agent.
+        ConfinementAnalyzer h = system("agent2 0;agent8 0;key0 0;hold0 1;hold1 2;");
+        h.forbid(0, 2);
+        due("23: the agent that answers", h.smallestRepair(), 0b1);
         // All ten references must go: each of them alone makes agent 0 hold itself or is forbidden.
         ConfinementAnalyzer e = system("agent5 0;agent1 0;agent1 0;agent1 0;agent1 0;agent1 0;agent1 0;agent1 0;"
                 + "agent1 0;agent1 0;");
