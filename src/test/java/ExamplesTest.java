@@ -1,14 +1,5 @@
 /** The four examples of the document, call by call. */
-public final class ExamplesTest {
-    private static int wrong = 0;
-
-    private static void due(String call, int got, int want) {
-        if (got != want) {
-            wrong++;
-            System.out.println(call + " answered " + got + ", due is " + want);
-        }
-    }
-
+public final class ExamplesTest extends Checks {
     private static void append(ConfinementAnalyzer c, String text) {
         for (int i = 0; i < text.length(); i++) {
             due("append(" + (int) text.charAt(i) + ")", c.append(text.charAt(i)), i + 1);
@@ -61,9 +52,6 @@ public final class ExamplesTest {
         keyHoldsNothing();
         boxWithoutContent();
         rulesInARun();
-        System.out.println(wrong == 0 ? "the examples hold" : wrong + " answers are not as due");
-        if (wrong != 0) {
-            System.exit(1);
-        }
+        end("the examples hold");
     }
 }

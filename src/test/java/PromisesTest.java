@@ -1,44 +1,5 @@
 /** For each promise: ordinary inputs, the edges that the document names, and wrong inputs. */
-public final class PromisesTest {
-    private static final int INVALID = ConfinementAnalyzer.INVALID_ARGUMENT;
-    private static final int ILLEGAL = ConfinementAnalyzer.ILLEGAL_STATE;
-    private static final int FULL = ConfinementAnalyzer.CAPACITY_EXCEEDED;
-    private static final int NONE = ConfinementAnalyzer.NONE;
-    private static final int LOW = Integer.MIN_VALUE;
-    private static final int HIGH = Integer.MAX_VALUE;
-    private static int wrong = 0;
-
-    private static void due(String what, int got, int want) {
-        if (got != want) {
-            wrong++;
-            System.out.println(what + " answered " + got + ", due is " + want);
-        }
-    }
-
-    private static void type(ConfinementAnalyzer c, String text) {
-        for (int i = 0; i < text.length(); i++) {
-            c.append(text.charAt(i));
-        }
-    }
-
-    private static ConfinementAnalyzer system(String text) {
-        ConfinementAnalyzer c = new ConfinementAnalyzer();
-        type(c, text);
-        int objects = c.load();
-        if (objects < 0) {
-            wrong++;
-            System.out.println("load() of " + text + " answered " + objects);
-        }
-        return c;
-    }
-
-    /** What load() of a new object answers for the text. */
-    private static int loaded(String text) {
-        ConfinementAnalyzer c = new ConfinementAnalyzer();
-        type(c, text);
-        return c.load();
-    }
-
+public final class PromisesTest extends Checks {
     private static void newObject() {
         ConfinementAnalyzer c = new ConfinementAnalyzer();
         due("1: objectCount", c.objectCount(), 0);
@@ -666,9 +627,6 @@ public final class PromisesTest {
         restarting();
         undoing();
         undoingLoads();
-        System.out.println(wrong == 0 ? "the promises hold" : wrong + " answers are not as due");
-        if (wrong != 0) {
-            System.exit(1);
-        }
+        end("the promises hold");
     }
 }
