@@ -148,6 +148,10 @@ public final class LanguageTest {
             if (lines > 60) {
                 fault(method.group(2) + " has " + lines + " lines");
             }
+            // All calls of a run live in one room: what the object needs is made with it.
+            if (method.group(3).matches("(?s).*\\b(new|clone|copyOf|copyOfRange|substring|toCharArray)\\b.*")) {
+                fault(method.group(2) + " makes an object");
+            }
         }
     }
 
